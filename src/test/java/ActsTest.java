@@ -37,7 +37,7 @@ public final class ActsTest {
     }
 
     private void refusedNights() {
-        MissingLamps lamps = PlansTest.late(QUAY, 990);
+        MissingLamps lamps = Tape.late(QUAY, 990);
         int[] bad = {0, -1, 41, 10, Integer.MAX_VALUE, Integer.MIN_VALUE};
         for (int k = 0; k < bad.length; k++) {
             check.due("nights " + bad[k], lamps.nights(bad[k]), -1);

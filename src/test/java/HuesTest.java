@@ -112,16 +112,16 @@ public final class HuesTest {
     }
 
     private void late() {
-        MissingLamps lamps = PlansTest.late(QUAY, 989);
+        MissingLamps lamps = Tape.late(QUAY, 989);
         meet(lamps, 10, 1, 4, 0);
         check.due("up to 999", lamps.hues(0), 504);
         meet(lamps, 11, 1, 4, 0);
         check.due("beyond 999", lamps.hues(0), 0);
         telling(lamps, 0, -1, -1, -1);
-        MissingLamps last = PlansTest.late(QUAY, 999);
+        MissingLamps last = Tape.late(QUAY, 999);
         check.due("nothing met", last.hues(0), 511);
         telling(last, 0, -1, -1, -1);
-        telling(PlansTest.late(QUAY, 998), 0, 1, 0, 5);
+        telling(Tape.late(QUAY, 998), 0, 1, 0, 5);
     }
 
     private void stays() {

@@ -39,30 +39,9 @@ public final class PlansTest {
         check.due("behind 3", grows.losses(0, 3), 1);
         grows.nights(5);
         check.due("behind 2, later", grows.losses(0, 2), -1);
-        MissingLamps old = late(LINE + "lack a at 0 0 hue 9 high 0;has a;" + folk, 998);
+        MissingLamps old = Tape.late(LINE + "lack a at 0 0 hue 9 high 0;has a;" + folk, 998);
         check.due("beyond 999", old.losses(0, 2), -1);
         check.due("up to 999", old.losses(0, 1), 1);
-    }
-
-    /** A quay at a late night, all else as at first. */
-    static MissingLamps late(String text, int night) {
-        MissingLamps lamps = Tape.laid(text);
-        int[] bytes = new int[lamps.image()];
-        for (int k = 0; k < bytes.length; k++) {
-            bytes[k] = lamps.octet(k);
-        }
-        bytes[0] = night / 256;
-        bytes[1] = night % 256;
-        int c = 241;
-        for (int k = 0; k < bytes.length - 1; k++) {
-            c = (5 * c + bytes[k]) % 251;
-        }
-        bytes[bytes.length - 1] = c;
-        Tape.bytes(lamps, bytes);
-        if (!lamps.on()) {
-            throw new IllegalStateException("no image of " + text);
-        }
-        return lamps;
     }
 
     private void worst() {
@@ -89,8 +68,8 @@ public final class PlansTest {
         MissingLamps nobody = Tape.laid(LINE + "lack a at 0 0 hue 1 high 0;");
         check.due("nobody", nobody.worst(1, 0), 0);
         check.due("nobody", nobody.worst(1, 1), 0);
-        check.due("beyond 999", late(LINE + "lack a at 0 0 hue 1 high 0;", 990).worst(10, 0), -1);
-        check.due("up to 999", late(LINE + "lack a at 0 0 hue 1 high 0;", 990).worst(9, 0), 0);
+        check.due("beyond 999", Tape.late(LINE + "lack a at 0 0 hue 1 high 0;", 990).worst(10, 0), -1);
+        check.due("up to 999", Tape.late(LINE + "lack a at 0 0 hue 1 high 0;", 990).worst(9, 0), 0);
     }
 
     private void cover() {
@@ -163,9 +142,9 @@ public final class PlansTest {
         check.due("gale 100", Tape.laid(quay + "gale 100;").odds(0), 200);
         check.due("without things", Tape.laid(LINE + "folk f at 0 0 home 0 0;").odds(0), -1);
         check.due("without things", Tape.laid(LINE).odds(-1), -1);
-        check.due("night 998", late(quay, 998).odds(-1), 300);
-        check.due("beyond 999", late(quay, 999).odds(-1), -1);
-        check.due("beyond 999", late(quay, 999).odds(2), -1);
+        check.due("night 998", Tape.late(quay, 998).odds(-1), 300);
+        check.due("beyond 999", Tape.late(quay, 999).odds(-1), -1);
+        check.due("beyond 999", Tape.late(quay, 999).odds(2), -1);
         check.due("the seed stays", lamps.has(12), 1);
     }
 }

@@ -45,4 +45,25 @@ final class Tape {
         }
         return lamps;
     }
+
+    /** A quay at a late night, all else as at first. */
+    static MissingLamps late(String text, int night) {
+        MissingLamps lamps = laid(text);
+        int[] bytes = new int[lamps.image()];
+        for (int k = 0; k < bytes.length; k++) {
+            bytes[k] = lamps.octet(k);
+        }
+        bytes[0] = night / 256;
+        bytes[1] = night % 256;
+        int c = 241;
+        for (int k = 0; k < bytes.length - 1; k++) {
+            c = (5 * c + bytes[k]) % 251;
+        }
+        bytes[bytes.length - 1] = c;
+        bytes(lamps, bytes);
+        if (!lamps.on()) {
+            throw new IllegalStateException("no image of " + text);
+        }
+        return lamps;
+    }
 }
