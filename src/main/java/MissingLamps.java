@@ -1000,7 +1000,7 @@ public final class MissingLamps {
             rule = which;
         }
 
-        boolean takesTest(int open) {
+        private boolean takesTest(int open) {
             boolean goes = takesBoth(open);
             for (int k = 0; k < TAPE_MOST && goes && reader.isOwn(W_OR); k++) {
                 reader.advance();
@@ -1041,7 +1041,7 @@ public final class MissingLamps {
             return takesSum(open) && rules.put(OP + sign);
         }
 
-        boolean takesSum(int open) {
+        private boolean takesSum(int open) {
             boolean goes = takesProduct(open);
             for (int k = 0; k < TAPE_MOST && goes && (reader.isSign('+') || reader.isSign('-')); k++) {
                 int sign = reader.value;

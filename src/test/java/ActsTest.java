@@ -69,6 +69,9 @@ public final class ActsTest {
         check.due("26, 80, 16 and a draw", windy.chance(3), 1);
         check.due("the seed", windy.has(12), 368800899);
         check.due("acts", windy.has(11), 2);
+        MissingLamps one = Tape.laid("quay 3 by 3;gale 100;lack a at 0 0 hue 1 high 0;");
+        check.due("one thing, each night", one.chance(2), 2);
+        check.due("four draws", one.has(12), 1147902781);
         MissingLamps nothing = Tape.laid("quay 3 by 3;gale 100;");
         check.due("without things", nothing.chance(2), 0);
         check.due("two draws", nothing.has(12), 377401575);

@@ -8,6 +8,7 @@ public final class ImagesTest {
         ImagesTest test = new ImagesTest();
         test.image();
         test.on();
+        test.onWithAll();
         test.refused();
         test.limits();
         test.statuses();
@@ -74,6 +75,37 @@ public final class ImagesTest {
         check.due("the seed stays", lamps.has(12), 77);
         check.due("nothing refused", lamps.status(5), 0);
         isImage(lamps, sealed(2, 5, 0, 7, 1, 99, 3, 1));
+    }
+
+    private void onWithAll() {
+        StringBuilder text = new StringBuilder("quay 7 by 7;");
+        for (int k = 0; k < 9; k++) {
+            text.append("lack x").append((char) ('a' + k)).append(" at 0 0 hue 1 high 0;");
+        }
+        for (int k = 0; k < 6; k++) {
+            text.append("folk y").append((char) ('a' + k)).append(" at 0 0 home 1 1;");
+        }
+        int[] bytes = new int[32];
+        for (int k = 0; k < 9; k++) {
+            bytes[2 + 2 * k] = k % 2;
+            bytes[3 + 2 * k] = 10 + k;
+        }
+        for (int k = 0; k < 6; k++) {
+            bytes[20 + 2 * k] = k;
+            bytes[21 + 2 * k] = 6 - k;
+        }
+        MissingLamps lamps = Tape.laid(text.toString());
+        check.due("on", on(lamps, sealed(bytes)), true);
+        check.due("missing", lamps.has(6), 4);
+        for (int k = 0; k < 6; k++) {
+            check.isAt(lamps, k, k, 6 - k);
+        }
+        isImage(lamps, sealed(bytes));
+        bytes[30] = 7;
+        check.due("the last one's column", on(lamps, sealed(bytes)), false);
+        bytes[30] = 6;
+        bytes[31] = 7;
+        check.due("the last one's row", on(lamps, sealed(bytes)), false);
     }
 
     private void refused() {

@@ -80,6 +80,7 @@ public final class PlansTest {
         check.due("one that hangs", Tape.laid(two + "lack c at 0 0 hue 3 high 0;lack d at 0 0 hue 3 high 0;has c;").cover(), 8);
         check.due("nothing is lit", Tape.laid(two + "has a;has b;").cover(), 0);
         check.due("no thing", Tape.laid(LINE).cover(), 0);
+        check.due("the first of all", Tape.laid(LINE + "lack z at 0 0 hue 9 high 0;lack y at 0 0 hue 9 high 0;").cover(), 1);
         String walled = "lack a at 0 0 hue 1 high 0;lack b at 0 1 hue 1 high 0;";
         check.due("a wall needs no light", Tape.laid("quay 3 by 3;wall 1 0;" + walled).cover(), 2);
         check.due("a cell does", Tape.laid("quay 3 by 3;" + walled).cover(), 3);

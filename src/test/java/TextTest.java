@@ -199,6 +199,11 @@ public final class TextTest {
         whole(START + "finds not [not (1+if(not [1=2],2,3))=4];", 2);
         faultBehind("glows if(not [not (((((1", 5, 21);
         faultBehind("finds not not not not not not not 1=(2)", 5, 36);
+        whole(START + "glows if(all,((((((1)))))),((((((2)))))));", 2);
+        faultBehind("glows if(all,(((((((1))))))),2);", 5, 19);
+        faultBehind("glows if(all,1,(((((((2))))))));", 5, 21);
+        faultBehind("glows if(((((((( 1", 5, 15);
+        faultBehind("glows min(1,(((((((2))))))));", 5, 18);
         whole(START + "glows (1)+(2)*(3)-(4)+(5)+(6)+(7)+(8)+(9);", 2);
     }
 
