@@ -15,45 +15,21 @@ public final class ImagesTest {
         test.check.end();
     }
 
-    private static int[] sealed(int... bytes) {
-        int[] all = java.util.Arrays.copyOf(bytes, bytes.length + 1);
-        int c = 241;
-        for (int one : bytes) {
-            c = (5 * c + one) % 251;
-        }
-        all[bytes.length] = c;
-        return all;
-    }
-
-    private boolean on(MissingLamps lamps, int... bytes) {
-        Tape.bytes(lamps, bytes);
-        return lamps.on();
-    }
-
-    private void isImage(MissingLamps lamps, int... due) {
-        check.due("image", lamps.image(), due.length);
-        for (int k = 0; k < due.length; k++) {
-            check.due("octet " + k, lamps.octet(k), due[k]);
-        }
-        check.due("octet beyond", lamps.octet(due.length), -1);
-        check.due("octet -1", lamps.octet(-1), -1);
-    }
-
     private void image() {
         MissingLamps lamps = new MissingLamps();
         check.due("no image", lamps.octet(0), -1);
-        isImage(lamps, 0, 0, 1);
+        check.isImage(lamps, 0, 0, 1);
         Tape.quay(lamps, QUAY);
-        isImage(lamps, sealed(0, 0, 1, 0, 0, 0, 2, 1));
+        check.isImage(lamps, Tape.sealed(0, 0, 1, 0, 0, 0, 2, 1));
         lamps.nights(40);
         check.due("the latest image", lamps.octet(1), 0);
-        isImage(lamps, sealed(0, 40, 1, 40, 0, 40, 2, 1));
+        check.isImage(lamps, Tape.sealed(0, 40, 1, 40, 0, 40, 2, 1));
         for (int k = 0; k < 6; k++) {
             lamps.nights(40);
         }
         lamps.lose(1);
         lamps.lead(0, 3, 0);
-        isImage(lamps, sealed(1, 24, 1, 99, 1, 0, 3, 0));
+        check.isImage(lamps, Tape.sealed(1, 24, 1, 99, 1, 0, 3, 0));
     }
 
     private void on() {
@@ -61,7 +37,7 @@ public final class ImagesTest {
         lamps.nights(3);
         lamps.lose(1);
         lamps.seed(77);
-        check.due("on", on(lamps, sealed(2, 5, 0, 7, 1, 99, 3, 1)), true);
+        check.due("on", Tape.on(lamps, Tape.sealed(2, 5, 0, 7, 1, 99, 3, 1)), true);
         check.due("the tape is gone", lamps.end(1), false);
         check.due("night", lamps.has(5), 517);
         check.due("a", lamps.thing(0, 4), 0);
@@ -74,7 +50,7 @@ public final class ImagesTest {
         check.due("no undo", lamps.undo(), false);
         check.due("the seed stays", lamps.has(12), 77);
         check.due("nothing refused", lamps.status(5), 0);
-        isImage(lamps, sealed(2, 5, 0, 7, 1, 99, 3, 1));
+        check.isImage(lamps, Tape.sealed(2, 5, 0, 7, 1, 99, 3, 1));
     }
 
     private void onWithAll() {
@@ -95,30 +71,30 @@ public final class ImagesTest {
             bytes[21 + 2 * k] = 6 - k;
         }
         MissingLamps lamps = Tape.laid(text.toString());
-        check.due("on", on(lamps, sealed(bytes)), true);
+        check.due("on", Tape.on(lamps, Tape.sealed(bytes)), true);
         check.due("missing", lamps.has(6), 4);
         for (int k = 0; k < 6; k++) {
             check.isAt(lamps, k, k, 6 - k);
         }
-        isImage(lamps, sealed(bytes));
+        check.isImage(lamps, Tape.sealed(bytes));
         bytes[30] = 7;
-        check.due("the last one's column", on(lamps, sealed(bytes)), false);
+        check.due("the last one's column", Tape.on(lamps, Tape.sealed(bytes)), false);
         bytes[30] = 6;
         bytes[31] = 7;
-        check.due("the last one's row", on(lamps, sealed(bytes)), false);
+        check.due("the last one's row", Tape.on(lamps, Tape.sealed(bytes)), false);
     }
 
     private void refused() {
         MissingLamps lamps = Tape.laid(QUAY);
         lamps.lead(0, 0, 1);
         lamps.find(0);
-        int[][] bad = {{}, {0, 0, 1}, sealed(0, 0, 1, 0, 0, 0), sealed(0, 0, 1, 0, 0, 0, 2, 1, 0),
-            sealed(0, 0, 1, 0, 0, 0, 2, 1, 2, 1), {0, 0, 1, 0, 0, 0, 2, 1, 0}, sealed(3, 232, 1, 0, 0, 0, 2, 1),
-            sealed(4, 0, 1, 0, 0, 0, 2, 1), sealed(0, 0, 2, 0, 0, 0, 2, 1), sealed(0, 0, 1, 0, 255, 0, 2, 1),
-            sealed(0, 0, 1, 100, 0, 0, 2, 1), sealed(0, 0, 1, 0, 0, 255, 2, 1), sealed(0, 0, 1, 0, 0, 0, 4, 1),
-            sealed(0, 0, 1, 0, 0, 0, 2, 3), sealed(0, 0, 1, 0, 0, 0, 3, 2), sealed(0, 0, 1, 0, 0, 0, 8, 0)};
+        int[][] bad = {{}, {0, 0, 1}, Tape.sealed(0, 0, 1, 0, 0, 0), Tape.sealed(0, 0, 1, 0, 0, 0, 2, 1, 0),
+            Tape.sealed(0, 0, 1, 0, 0, 0, 2, 1, 2, 1), {0, 0, 1, 0, 0, 0, 2, 1, 0}, Tape.sealed(3, 232, 1, 0, 0, 0, 2, 1),
+            Tape.sealed(4, 0, 1, 0, 0, 0, 2, 1), Tape.sealed(0, 0, 2, 0, 0, 0, 2, 1), Tape.sealed(0, 0, 1, 0, 255, 0, 2, 1),
+            Tape.sealed(0, 0, 1, 100, 0, 0, 2, 1), Tape.sealed(0, 0, 1, 0, 0, 255, 2, 1), Tape.sealed(0, 0, 1, 0, 0, 0, 4, 1),
+            Tape.sealed(0, 0, 1, 0, 0, 0, 2, 3), Tape.sealed(0, 0, 1, 0, 0, 0, 3, 2), Tape.sealed(0, 0, 1, 0, 0, 0, 8, 0)};
         for (int k = 0; k < bad.length; k++) {
-            check.due("bad image " + k, on(lamps, bad[k]), false);
+            check.due("bad image " + k, Tape.on(lamps, bad[k]), false);
             check.due("refused " + k, lamps.status(5), k + 1);
             check.due("the tape is gone", lamps.end(1), false);
         }
@@ -127,13 +103,13 @@ public final class ImagesTest {
         check.due("acts stay", lamps.has(11), 2);
         check.due("kept stays", lamps.has(9), 1);
         MissingLamps none = new MissingLamps();
-        check.due("no quay", on(none, 0, 0, 1), false);
+        check.due("no quay", Tape.on(none, 0, 0, 1), false);
         check.due("refused", none.status(5), 1);
     }
 
     private void limits() {
         MissingLamps lamps = Tape.laid(QUAY);
-        check.due("night 999", on(lamps, sealed(3, 231, 1, 99, 1, 99, 0, 0)), true);
+        check.due("night 999", Tape.on(lamps, Tape.sealed(3, 231, 1, 99, 1, 99, 0, 0)), true);
         check.due("night", lamps.has(5), 999);
         check.due("later now", lamps.later(0, 0, 0), 0);
         check.due("later", lamps.later(0, 1, 0), -1);
@@ -141,7 +117,7 @@ public final class ImagesTest {
         check.due("losses now", lamps.losses(0, 0), 0);
         check.due("losses", lamps.losses(0, 1), -1);
         check.due("worst", lamps.worst(1, 0), -1);
-        check.due("another quay's image", on(Tape.laid("quay 3 by 3;"), sealed(0, 0)), true);
+        check.due("another quay's image", Tape.on(Tape.laid("quay 3 by 3;"), Tape.sealed(0, 0)), true);
     }
 
     private void statuses() {

@@ -86,38 +86,28 @@ public final class PlansTest {
         check.due("a cell does", Tape.laid("quay 3 by 3;" + walled).cover(), 3);
     }
 
-    private void sent(MissingLamps lamps, int count, int steps, int... things) {
-        check.due("send(0)", lamps.send(0), count);
-        check.due("send(1)", lamps.send(1), steps);
-        for (int f = 0; f < things.length; f++) {
-            check.due("send(" + (2 + f) + ")", lamps.send(2 + f), things[f]);
-        }
-        check.due("send beyond", lamps.send(2 + things.length), -1);
-        check.due("send(-1)", lamps.send(-1), -1);
-    }
-
     private void send() {
         // The nearest for the first would cost the second more.
-        sent(Tape.laid(LINE + "lack a at 2 0 hue 1 high 0;lack b at 0 0 hue 1 high 0;"
+        check.isSent(Tape.laid(LINE + "lack a at 2 0 hue 1 high 0;lack b at 0 0 hue 1 high 0;"
                 + "folk f at 1 0 home 0 0;folk g at 4 0 home 0 0;"), 2, 3, 1, 0);
         // All that can go, even if it is far: dark or not.
-        sent(Tape.laid(LINE + "lack a at 0 0 hue 1 high 0;lack b at 6 2 hue 1 high 0;"
+        check.isSent(Tape.laid(LINE + "lack a at 0 0 hue 1 high 0;lack b at 6 2 hue 1 high 0;"
                 + "folk f at 0 1 home 0 0;folk g at 0 2 home 0 0;"), 2, 7, 0, 1);
         // A thing behind walls, and one that is not missing.
-        sent(Tape.laid(LINE + "wall 1 0;wall 0 1;lack a at 0 0 hue 1 high 0;lack b at 2 0 hue 1 high 0;has b;"
+        check.isSent(Tape.laid(LINE + "wall 1 0;wall 0 1;lack a at 0 0 hue 1 high 0;lack b at 2 0 hue 1 high 0;has b;"
                 + "lack c at 4 0 hue 1 high 0;folk f at 2 0 home 2 0;folk g at 2 1 home 2 1;"), 1, 2, 2, -1);
         // Around a wall.
-        sent(Tape.laid(LINE + "wall 1 0;wall 1 1;lack a at 0 0 hue 1 high 0;folk f at 2 0 home 2 0;"), 1, 6, 0);
-        sent(Tape.laid(LINE + "folk f at 2 0 home 2 0;"), 0, 0, -1);
-        sent(Tape.laid(LINE + "lack a at 0 0 hue 1 high 0;"), 0, 0);
-        sent(new MissingLamps(), 0, 0);
+        check.isSent(Tape.laid(LINE + "wall 1 0;wall 1 1;lack a at 0 0 hue 1 high 0;folk f at 2 0 home 2 0;"), 1, 6, 0);
+        check.isSent(Tape.laid(LINE + "folk f at 2 0 home 2 0;"), 0, 0, -1);
+        check.isSent(Tape.laid(LINE + "lack a at 0 0 hue 1 high 0;"), 0, 0);
+        check.isSent(new MissingLamps(), 0, 0);
     }
 
     private void sendLikeOnes() {
         String pair = "folk f at 3 0 home 0 0;folk g at 3 0 home 0 0;";
-        sent(Tape.laid(LINE + "lack a at 2 0 hue 1 high 0;lack b at 4 0 hue 1 high 0;" + pair), 2, 2, 0, 1);
-        sent(Tape.laid(LINE + "lack a at 2 0 hue 1 high 0;" + pair), 1, 1, -1, 0);
-        sent(Tape.laid(LINE + "lack a at 2 0 hue 1 high 0;lack b at 4 0 hue 1 high 0;lack c at 3 1 hue 1 high 0;" + pair),
+        check.isSent(Tape.laid(LINE + "lack a at 2 0 hue 1 high 0;lack b at 4 0 hue 1 high 0;" + pair), 2, 2, 0, 1);
+        check.isSent(Tape.laid(LINE + "lack a at 2 0 hue 1 high 0;" + pair), 1, 1, -1, 0);
+        check.isSent(Tape.laid(LINE + "lack a at 2 0 hue 1 high 0;lack b at 4 0 hue 1 high 0;lack c at 3 1 hue 1 high 0;" + pair),
                 2, 2, 0, 1);
         StringBuilder all = new StringBuilder(LINE);
         for (int t = 0; t < 9; t++) {
@@ -126,7 +116,7 @@ public final class PlansTest {
         for (int f = 0; f < 6; f++) {
             all.append("folk y").append((char) ('a' + f)).append(" at 6 2 home 0 0;");
         }
-        sent(Tape.laid(all.toString()), 6, 48, 0, 1, 2, 3, 4, 5);
+        check.isSent(Tape.laid(all.toString()), 6, 48, 0, 1, 2, 3, 4, 5);
     }
 
     private void odds() {

@@ -1,6 +1,6 @@
 /** Promises 1 to 5: a new object, the tape, the text and its faults. */
 public final class TextTest {
-    private static final String START = "quay 3 by 3;";
+    private static final String START = Tape.START;
     private static final String[] OWN = ("quay by pace gale wall lack at hue high has folk home glows finds loses night "
             + "age lost near if or and not all min max").split(" ");
     private final Check check = new Check();
@@ -60,151 +60,131 @@ public final class TextTest {
         check.due("refused", lamps.status(0), 5);
     }
 
-    private void fault(String text, int kind, int place) {
-        MissingLamps lamps = new MissingLamps();
-        check.due("quay() of " + text, Tape.quay(lamps, text), -1);
-        check.due("fault(0) of " + text, lamps.fault(0), kind);
-        check.due("fault(1) of " + text, lamps.fault(1), place);
-        check.due("status(1) of " + text, lamps.status(1), 1);
-    }
-
-    /** A fault in what stands behind the first statement; the place counts from there. */
-    private void faultBehind(String text, int kind, int place) {
-        fault(START + text, kind, START.length() + place);
-    }
-
-    private void whole(String text, int statements) {
-        MissingLamps lamps = new MissingLamps();
-        check.due("quay() of " + text, Tape.quay(lamps, text), statements);
-        check.due("fault(0) of " + text, lamps.fault(0), 0);
-        check.due("fault(1) of " + text, lamps.fault(1), -1);
-    }
-
     private void wholeTexts() {
-        whole("quay 3 by 3;", 1);
-        whole("quay 7 by 7;", 1);
-        whole(" \nquay\n3   by 3\n ; \n", 1);
-        whole("quay 0003 by 07;", 1);
-        whole(START + "pace 1;pace 9;gale 0;gale 100;", 5);
-        whole(START + "lack abcdef at 2 2 hue 9 high 9;has abcdef;folk a at 2 2 home 2 2;", 4);
-        whole(START + "glows(1);finds[all];", 3);
-        whole(START + "glows 9999 + 0 * night;loses not lost < 3 or [ all ] ;", 3);
+        check.isWhole("quay 3 by 3;", 1);
+        check.isWhole("quay 7 by 7;", 1);
+        check.isWhole(" \nquay\n3   by 3\n ; \n", 1);
+        check.isWhole("quay 0003 by 07;", 1);
+        check.isWhole(START + "pace 1;pace 9;gale 0;gale 100;", 5);
+        check.isWhole(START + "lack abcdef at 2 2 hue 9 high 9;has abcdef;folk a at 2 2 home 2 2;", 4);
+        check.isWhole(START + "glows(1);finds[all];", 3);
+        check.isWhole(START + "glows 9999 + 0 * night;loses not lost < 3 or [ all ] ;", 3);
     }
 
     private void textFaults() {
-        fault("", 1, 0);
-        fault("  \n", 1, 3);
-        fault("pace 1;", 1, 0);
-        fault(";", 1, 0);
-        fault("3", 1, 0);
-        fault("Quay 3 by 3;", 1, 0);
-        fault("qua", 1, 0);
-        fault("quays 3 by 3;", 1, 0);
-        fault("quay", 1, 4);
-        fault("quay ", 1, 5);
-        fault("quay by 3", 1, 5);
-        fault("quay 3 by 3", 1, 11);
-        fault("quay 3 by 3 \n", 1, 13);
-        fault("quay 3 b", 1, 7);
-        fault("quay3 by 3;", 1, 4);
-        fault("quay 3by 3;", 1, 6);
-        fault("quay 3 by3;", 1, 9);
-        faultBehind(";", 1, 0);
-        faultBehind("quay 3 by 3;", 1, 0);
-        faultBehind("pac 1;", 1, 0);
-        faultBehind("by 1;", 1, 0);
-        faultBehind("a;", 1, 0);
-        faultBehind("\tpace 1;", 1, 0);
-        faultBehind("pace;", 1, 4);
-        faultBehind("pace 1 1;", 1, 7);
-        faultBehind("pace -1;", 1, 5);
-        faultBehind("pace 1", 1, 6);
-        faultBehind("paceful 1;", 1, 6);
-        faultBehind("pace abcdefg;", 1, 11);
-        faultBehind("pace 12345;", 1, 9);
-        faultBehind("abcdefgh", 1, 6);
-        faultBehind("12345", 1, 4);
-        faultBehind("wall 1;", 1, 6);
-        faultBehind("wall 1,1;", 1, 6);
-        faultBehind("lack a at 0 0 high 1;", 1, 14);
-        faultBehind("lack a at 0 0 hue 1;", 1, 19);
-        faultBehind("folk a at 0 0;", 1, 13);
-        faultBehind("has;", 1, 3);
-        faultBehind("gale 1 \u00e9;", 1, 7);
+        check.isFault("", 1, 0);
+        check.isFault("  \n", 1, 3);
+        check.isFault("pace 1;", 1, 0);
+        check.isFault(";", 1, 0);
+        check.isFault("3", 1, 0);
+        check.isFault("Quay 3 by 3;", 1, 0);
+        check.isFault("qua", 1, 0);
+        check.isFault("quays 3 by 3;", 1, 0);
+        check.isFault("quay", 1, 4);
+        check.isFault("quay ", 1, 5);
+        check.isFault("quay by 3", 1, 5);
+        check.isFault("quay 3 by 3", 1, 11);
+        check.isFault("quay 3 by 3 \n", 1, 13);
+        check.isFault("quay 3 b", 1, 7);
+        check.isFault("quay3 by 3;", 1, 4);
+        check.isFault("quay 3by 3;", 1, 6);
+        check.isFault("quay 3 by3;", 1, 9);
+        check.isFaultBehind(";", 1, 0);
+        check.isFaultBehind("quay 3 by 3;", 1, 0);
+        check.isFaultBehind("pac 1;", 1, 0);
+        check.isFaultBehind("by 1;", 1, 0);
+        check.isFaultBehind("a;", 1, 0);
+        check.isFaultBehind("\tpace 1;", 1, 0);
+        check.isFaultBehind("pace;", 1, 4);
+        check.isFaultBehind("pace 1 1;", 1, 7);
+        check.isFaultBehind("pace -1;", 1, 5);
+        check.isFaultBehind("pace 1", 1, 6);
+        check.isFaultBehind("paceful 1;", 1, 6);
+        check.isFaultBehind("pace abcdefg;", 1, 11);
+        check.isFaultBehind("pace 12345;", 1, 9);
+        check.isFaultBehind("abcdefgh", 1, 6);
+        check.isFaultBehind("12345", 1, 4);
+        check.isFaultBehind("wall 1;", 1, 6);
+        check.isFaultBehind("wall 1,1;", 1, 6);
+        check.isFaultBehind("lack a at 0 0 high 1;", 1, 14);
+        check.isFaultBehind("lack a at 0 0 hue 1;", 1, 19);
+        check.isFaultBehind("folk a at 0 0;", 1, 13);
+        check.isFaultBehind("has;", 1, 3);
+        check.isFaultBehind("gale 1 \u00e9;", 1, 7);
     }
 
     private void names() {
         for (String own : OWN) {
-            faultBehind("lack " + own + " at", 1, 5);
-            faultBehind("folk " + own + " at", 1, 5);
-            faultBehind("has " + own + ";", 1, 4);
+            check.isFaultBehind("lack " + own + " at", 1, 5);
+            check.isFaultBehind("folk " + own + " at", 1, 5);
+            check.isFaultBehind("has " + own + ";", 1, 4);
         }
         String both = "lack a at 0 0 hue 1 high 1;folk b at 0 0 home 0 0;";
         int from = both.length();
-        faultBehind("lack abcdefg", 1, 11);
-        faultBehind("lack aB", 1, 6);
-        faultBehind("lack 1", 1, 5);
-        faultBehind(both + "lack b at", 2, from + 5);
-        faultBehind(both + "lack a at", 2, from + 5);
-        faultBehind(both + "folk a at", 2, from + 5);
-        faultBehind(both + "folk b", 2, from + 5);
-        faultBehind(both + "has b;", 3, from + 4);
-        faultBehind(both + "has c", 3, from + 4);
-        faultBehind(both + "has a;has a;", 3, from + 10);
-        faultBehind("has a;lack a at 0 0 hue 1 high 1;", 3, 4);
-        whole(START + both + "lack ab at 0 0 hue 1 high 1;has ab;has a;", 6);
+        check.isFaultBehind("lack abcdefg", 1, 11);
+        check.isFaultBehind("lack aB", 1, 6);
+        check.isFaultBehind("lack 1", 1, 5);
+        check.isFaultBehind(both + "lack b at", 2, from + 5);
+        check.isFaultBehind(both + "lack a at", 2, from + 5);
+        check.isFaultBehind(both + "folk a at", 2, from + 5);
+        check.isFaultBehind(both + "folk b", 2, from + 5);
+        check.isFaultBehind(both + "has b;", 3, from + 4);
+        check.isFaultBehind(both + "has c", 3, from + 4);
+        check.isFaultBehind(both + "has a;has a;", 3, from + 10);
+        check.isFaultBehind("has a;lack a at 0 0 hue 1 high 1;", 3, 4);
+        check.isWhole(START + both + "lack ab at 0 0 hue 1 high 1;has ab;has a;", 6);
     }
 
     private void numbers() {
-        fault("quay 2 by 3;", 4, 5);
-        fault("quay 8 by 3;", 4, 5);
-        fault("quay 3 by 2;", 4, 10);
-        fault("quay 3 by 0008;", 4, 10);
-        faultBehind("pace 0;", 4, 5);
-        faultBehind("pace 10;", 4, 5);
-        faultBehind("gale 101;", 4, 5);
-        faultBehind("wall 3 0;", 4, 5);
-        faultBehind("wall 0 3;", 4, 7);
-        faultBehind("wall 0 0;wall 0 0;", 4, 16);
-        faultBehind("lack a at 3 0", 4, 10);
-        faultBehind("lack a at 0 3", 4, 12);
-        faultBehind("lack a at 0 0 hue 0", 4, 18);
-        faultBehind("lack a at 0 0 hue 10", 4, 18);
-        faultBehind("lack a at 0 0 hue 1 high 10", 4, 25);
-        faultBehind("lack a at 1 2 hue 1 high 0;wall 1 2;", 4, 34);
-        faultBehind("wall 1 2;lack a at 1 2", 4, 21);
-        faultBehind("wall 1 2;folk a at 1 2", 4, 21);
-        faultBehind("wall 1 2;folk a at 1 1 home 1 2", 4, 30);
-        faultBehind("folk a at 1 1 home 3 0", 4, 19);
-        faultBehind("folk a at 1 1 home 0 3", 4, 21);
-        faultBehind("folk a at 1 1 home 2 2;wall 1 1;", 4, 30);
-        faultBehind("folk a at 1 1 home 2 2;wall 2 2;", 4, 30);
-        whole("quay 7 by 3;wall 6 2;wall 0 0;", 3);
-        whole(START + "lack a at 0 0 hue 1 high 0;lack b at 0 0 hue 9 high 9;folk c at 0 0 home 0 0;", 4);
+        check.isFault("quay 2 by 3;", 4, 5);
+        check.isFault("quay 8 by 3;", 4, 5);
+        check.isFault("quay 3 by 2;", 4, 10);
+        check.isFault("quay 3 by 0008;", 4, 10);
+        check.isFaultBehind("pace 0;", 4, 5);
+        check.isFaultBehind("pace 10;", 4, 5);
+        check.isFaultBehind("gale 101;", 4, 5);
+        check.isFaultBehind("wall 3 0;", 4, 5);
+        check.isFaultBehind("wall 0 3;", 4, 7);
+        check.isFaultBehind("wall 0 0;wall 0 0;", 4, 16);
+        check.isFaultBehind("lack a at 3 0", 4, 10);
+        check.isFaultBehind("lack a at 0 3", 4, 12);
+        check.isFaultBehind("lack a at 0 0 hue 0", 4, 18);
+        check.isFaultBehind("lack a at 0 0 hue 10", 4, 18);
+        check.isFaultBehind("lack a at 0 0 hue 1 high 10", 4, 25);
+        check.isFaultBehind("lack a at 1 2 hue 1 high 0;wall 1 2;", 4, 34);
+        check.isFaultBehind("wall 1 2;lack a at 1 2", 4, 21);
+        check.isFaultBehind("wall 1 2;folk a at 1 2", 4, 21);
+        check.isFaultBehind("wall 1 2;folk a at 1 1 home 1 2", 4, 30);
+        check.isFaultBehind("folk a at 1 1 home 3 0", 4, 19);
+        check.isFaultBehind("folk a at 1 1 home 0 3", 4, 21);
+        check.isFaultBehind("folk a at 1 1 home 2 2;wall 1 1;", 4, 30);
+        check.isFaultBehind("folk a at 1 1 home 2 2;wall 2 2;", 4, 30);
+        check.isWhole("quay 7 by 3;wall 6 2;wall 0 0;", 3);
+        check.isWhole(START + "lack a at 0 0 hue 1 high 0;lack b at 0 0 hue 9 high 9;folk c at 0 0 home 0 0;", 4);
     }
 
     private void open() {
-        whole(START + "glows (((((((1)))))));", 2);
-        faultBehind("glows ((((((((1))))))));", 5, 13);
-        faultBehind("glows ((((((((", 5, 13);
-        whole(START + "finds not not not not not not not all;", 2);
-        faultBehind("finds not not not not not not not not all;", 5, 34);
-        whole(START + "finds [[[[[[[all]]]]]]];", 2);
-        faultBehind("finds [[[[[[[[all]]]]]]]];", 5, 13);
-        whole(START + "finds not not not not not not not all and not not not not not not not all;", 2);
-        whole(START + "glows min(min(min(min(min(min(min(1,2),3),4),5),6),7),8);", 2);
-        faultBehind("glows min(max(min(max(min(max(min(min(1", 5, 37);
-        faultBehind("finds not [not (if(not [1", 1, 25);
-        faultBehind("finds not [not (1+if(not [not all", 5, 26);
-        whole(START + "finds not [not (1+if(not [1=2],2,3))=4];", 2);
-        faultBehind("glows if(not [not (((((1", 5, 21);
-        faultBehind("finds not not not not not not not 1=(2)", 5, 36);
-        whole(START + "glows if(all,((((((1)))))),((((((2)))))));", 2);
-        faultBehind("glows if(all,(((((((1))))))),2);", 5, 19);
-        faultBehind("glows if(all,1,(((((((2))))))));", 5, 21);
-        faultBehind("glows if(((((((( 1", 5, 15);
-        faultBehind("glows min(1,(((((((2))))))));", 5, 18);
-        whole(START + "glows (1)+(2)*(3)-(4)+(5)+(6)+(7)+(8)+(9);", 2);
+        check.isWhole(START + "glows (((((((1)))))));", 2);
+        check.isFaultBehind("glows ((((((((1))))))));", 5, 13);
+        check.isFaultBehind("glows ((((((((", 5, 13);
+        check.isWhole(START + "finds not not not not not not not all;", 2);
+        check.isFaultBehind("finds not not not not not not not not all;", 5, 34);
+        check.isWhole(START + "finds [[[[[[[all]]]]]]];", 2);
+        check.isFaultBehind("finds [[[[[[[[all]]]]]]]];", 5, 13);
+        check.isWhole(START + "finds not not not not not not not all and not not not not not not not all;", 2);
+        check.isWhole(START + "glows min(min(min(min(min(min(min(1,2),3),4),5),6),7),8);", 2);
+        check.isFaultBehind("glows min(max(min(max(min(max(min(min(1", 5, 37);
+        check.isFaultBehind("finds not [not (if(not [1", 1, 25);
+        check.isFaultBehind("finds not [not (1+if(not [not all", 5, 26);
+        check.isWhole(START + "finds not [not (1+if(not [1=2],2,3))=4];", 2);
+        check.isFaultBehind("glows if(not [not (((((1", 5, 21);
+        check.isFaultBehind("finds not not not not not not not 1=(2)", 5, 36);
+        check.isWhole(START + "glows if(all,((((((1)))))),((((((2)))))));", 2);
+        check.isFaultBehind("glows if(all,(((((((1))))))),2);", 5, 19);
+        check.isFaultBehind("glows if(all,1,(((((((2))))))));", 5, 21);
+        check.isFaultBehind("glows if(((((((( 1", 5, 15);
+        check.isFaultBehind("glows min(1,(((((((2))))))));", 5, 18);
+        check.isWhole(START + "glows (1)+(2)*(3)-(4)+(5)+(6)+(7)+(8)+(9);", 2);
     }
 
     private void tooMany() {
@@ -212,61 +192,61 @@ public final class TextTest {
         for (char c = 'a'; c < 'j'; c++) {
             things.append("lack ").append(c).append(" at 0 0 hue 1 high 1;");
         }
-        whole(START + things, 10);
-        faultBehind(things + " lack x", 6, things.length() + 1);
-        faultBehind(things + "lack", 6, things.length());
+        check.isWhole(START + things, 10);
+        check.isFaultBehind(things + " lack x", 6, things.length() + 1);
+        check.isFaultBehind(things + "lack", 6, things.length());
         StringBuilder folk = new StringBuilder();
         for (char c = 'm'; c < 's'; c++) {
             folk.append("folk ").append(c).append(" at 0 0 home 0 0;");
         }
-        whole(START + things + folk, 16);
-        faultBehind(folk + "folk x", 6, folk.length());
+        check.isWhole(START + things + folk, 16);
+        check.isFaultBehind(folk + "folk x", 6, folk.length());
         for (String rule : new String[] {"glows 1;", "finds all;", "loses all;"}) {
-            faultBehind(rule + rule, 6, rule.length());
+            check.isFaultBehind(rule + rule, 6, rule.length());
         }
         String full = "pace 1;".repeat(79);
-        whole(START + full, 80);
-        whole(START + full + " \n", 80);
+        check.isWhole(START + full, 80);
+        check.isWhole(START + full + " \n", 80);
         for (String last : new String[] {"pace 1;", "quay 3 by 3;", "nothing", "x", "glows", "lack"}) {
-            faultBehind(full + " " + last, 6, full.length() + 1);
+            check.isFaultBehind(full + " " + last, 6, full.length() + 1);
         }
     }
 
     private void ruleFaults() {
-        faultBehind("glows near;", 1, 6);
-        faultBehind("glows if(near>0,1,2);", 1, 9);
-        faultBehind("finds lost>1;", 1, 6);
-        faultBehind("loses near>1;", 1, 6);
-        faultBehind("loses age>near;", 1, 10);
-        faultBehind("glows;", 1, 5);
-        faultBehind("glows 1+;", 1, 8);
-        faultBehind("glows +1;", 1, 6);
-        faultBehind("glows 1 2;", 1, 8);
-        faultBehind("glows hue high;", 1, 10);
-        faultBehind("glows a;", 1, 6);
-        faultBehind("glows home;", 1, 6);
-        faultBehind("glows 1>0;", 1, 7);
-        faultBehind("glows all;", 1, 6);
-        faultBehind("glows [1];", 1, 6);
-        faultBehind("glows (1;", 1, 8);
-        faultBehind("glows 1);", 1, 7);
-        faultBehind("glows min 1;", 1, 10);
-        faultBehind("glows min(1);", 1, 11);
-        faultBehind("glows min(1,2,3);", 1, 13);
-        faultBehind("glows if(1,2,3);", 1, 10);
-        faultBehind("glows if(all,2);", 1, 14);
-        faultBehind("finds 1;", 1, 7);
-        faultBehind("finds (1>0);", 1, 8);
-        faultBehind("finds [1];", 1, 8);
-        faultBehind("finds 1<2<3;", 1, 9);
-        faultBehind("finds all or;", 1, 12);
-        faultBehind("finds all all;", 1, 10);
-        faultBehind("finds not;", 1, 9);
-        faultBehind("finds [all;", 1, 10);
-        faultBehind("finds all];", 1, 9);
-        faultBehind("glows 12345;", 1, 10);
-        faultBehind("glows hue2;", 1, 9);
-        faultBehind("finds 1>0and all;", 1, 9);
+        check.isFaultBehind("glows near;", 1, 6);
+        check.isFaultBehind("glows if(near>0,1,2);", 1, 9);
+        check.isFaultBehind("finds lost>1;", 1, 6);
+        check.isFaultBehind("loses near>1;", 1, 6);
+        check.isFaultBehind("loses age>near;", 1, 10);
+        check.isFaultBehind("glows;", 1, 5);
+        check.isFaultBehind("glows 1+;", 1, 8);
+        check.isFaultBehind("glows +1;", 1, 6);
+        check.isFaultBehind("glows 1 2;", 1, 8);
+        check.isFaultBehind("glows hue high;", 1, 10);
+        check.isFaultBehind("glows a;", 1, 6);
+        check.isFaultBehind("glows home;", 1, 6);
+        check.isFaultBehind("glows 1>0;", 1, 7);
+        check.isFaultBehind("glows all;", 1, 6);
+        check.isFaultBehind("glows [1];", 1, 6);
+        check.isFaultBehind("glows (1;", 1, 8);
+        check.isFaultBehind("glows 1);", 1, 7);
+        check.isFaultBehind("glows min 1;", 1, 10);
+        check.isFaultBehind("glows min(1);", 1, 11);
+        check.isFaultBehind("glows min(1,2,3);", 1, 13);
+        check.isFaultBehind("glows if(1,2,3);", 1, 10);
+        check.isFaultBehind("glows if(all,2);", 1, 14);
+        check.isFaultBehind("finds 1;", 1, 7);
+        check.isFaultBehind("finds (1>0);", 1, 8);
+        check.isFaultBehind("finds [1];", 1, 8);
+        check.isFaultBehind("finds 1<2<3;", 1, 9);
+        check.isFaultBehind("finds all or;", 1, 12);
+        check.isFaultBehind("finds all all;", 1, 10);
+        check.isFaultBehind("finds not;", 1, 9);
+        check.isFaultBehind("finds [all;", 1, 10);
+        check.isFaultBehind("finds all];", 1, 9);
+        check.isFaultBehind("glows 12345;", 1, 10);
+        check.isFaultBehind("glows hue2;", 1, 9);
+        check.isFaultBehind("finds 1>0and all;", 1, 9);
     }
 
     private void faultKeepsAll() {
