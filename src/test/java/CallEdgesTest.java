@@ -129,6 +129,16 @@ public final class CallEdgesTest {
         check.due("20 are not there", lamps.end(20), false);
         check.due("the first 19 again", lamps.end(19), true);
         check.due("two statements", lamps.quay(), 2);
+        // What was cut off goes on neither with a number, nor with a word, nor with a sign.
+        String[] cut = {"quay 3 by 37", "quay 3 by 3;pacex", "quay 3 by 3;"};
+        int[][] faults = {{1, 11}, {1, 16}, {1, 11}};
+        for (int k = 0; k < cut.length; k++) {
+            Tape.text(lamps, cut[k]);
+            lamps.end(cut[k].length() - 1);
+            check.due("cut: " + cut[k], lamps.quay(), -1);
+            check.due("its fault", lamps.fault(0), faults[k][0]);
+            check.due("its place", lamps.fault(1), faults[k][1]);
+        }
         check.of("3: false, refused (0), if it has not so many, or n is below 0");
         check.due("0 of none", lamps.end(0), true);
         check.due("1 of none", lamps.end(1), false);
@@ -157,6 +167,29 @@ public final class CallEdgesTest {
         whole.append(";  ");
         check.due("all 1600 bytes", Tape.quay(lamps, whole.substring(0, 1600)), 2);
         check.due("nothing refused but the empty tape", lamps.status(1), 1);
+        fullTape();
+        longTexts();
+    }
+
+    /** The tape's last byte is the text's last one, whatever it is. */
+    private void fullTape() {
+        String most = "quay 3 by 3;" + " ".repeat(1583);
+        String[] ends = {"gale ", " gale", "zzzzz", "1    ", "    1", " 9999", "?    ", "    ?"};
+        int[] places = {1600, 1600, 1595, 1595, 1599, 1596, 1595, 1599};
+        for (int k = 0; k < ends.length; k++) {
+            check.isFault(most + ends[k], 1, places[k]);
+        }
+        check.isFault("quay 3 by 3;gale " + " ".repeat(1579) + "0101", 4, 1596);
+        check.isWhole("quay 3 by 3;gale " + " ".repeat(1578) + "0100;", 2);
+    }
+
+    /** Each text has the whole tape, however long those ahead of it were. */
+    private void longTexts() {
+        MissingLamps lamps = new MissingLamps();
+        for (int k = 1; k <= 5; k++) {
+            check.due("a long text", Tape.quay(lamps, "quay 3 by 3;lack a at 0 0 hue 1 high 0;glows 0" + "+1-1".repeat(380) + "+" + k + ";"), 3);
+            check.due("its sum", lamps.thing(0, 6), k);
+        }
     }
 
     private void p04quayRefused() {
@@ -184,6 +217,7 @@ public final class CallEdgesTest {
 
     private void p04quayAfterQuay() {
         check.of("4: Without one all is as at first, nothing is KEPT or MET, no ACT can be undone; the seed stays");
+        check.due("an empty quay", Told.all(Tape.laid("quay 3 by 4;")), "has 3 4 0 0 0 0 0 0 0 0 0 0 1");
         // All that a text can leave out was told by the texts ahead of it.
         String full = "quay 7 by 7;pace 9;gale 100;wall 6 6;wall 5 5;" + Tape.things(9) + "has a;has b;has c;has d;has e;has f;"
                 + Tape.folk(6) + "glows 9;finds age=3;loses age=2;";
@@ -637,7 +671,13 @@ public final class CallEdgesTest {
         check.due("night", lamps.has(5), 43);
         check.due("the seed", lamps.has(12), 1);
         check.due("acts", lamps.has(11), 3);
+        refusedNights();
+    }
+
+    private void refusedNights() {
         check.of("22: NONE, refused (2), when it can't be (beyond NIGHT 999, without a quay)");
+        MissingLamps lamps = Tape.laid(QUAY);
+        lamps.nights(2);
         String told = Told.all(lamps);
         int refused = 0;
         for (int n : new int[] {LEAST, -1, 0, 41, 42, MOST}) {
@@ -748,34 +788,61 @@ public final class CallEdgesTest {
 
     private void p27undo() {
         check.of("27: The latest ACT is undone: all is as it was ahead of it (but the seed): true");
-        MissingLamps lamps = Tape.laid(QUAY + "gale 100;loses age=2;finds not all;");
-        String[] told = new String[6];
-        told[0] = Told.all(lamps);
-        lamps.nights(4);
-        told[1] = Told.all(lamps);
-        lamps.find(1);
-        told[2] = Told.all(lamps);
-        lamps.lead(1, 0, 3);
-        told[3] = Told.all(lamps);
-        lamps.lose(1);
-        told[4] = Told.all(lamps);
-        lamps.chance(5);
-        int seed = lamps.has(12);
-        check.due("ten draws", seed != 1, true);
-        for (int k = 4; k >= 0; k--) {
+        String text = QUAY + "gale 100;loses age=2;finds not all;";
+        for (int act = 0; act < 5; act++) {
+            MissingLamps lamps = Tape.laid(text);
+            for (int k = 0; k < act; k++) {
+                act(lamps, k);
+            }
+            String told = Told.all(lamps);
+            act(lamps, act);
+            int seed = lamps.has(12);
+            check.due("acts", lamps.has(11), act + 1);
+            check.due("drawn by chance alone", seed != 1, act == 4);
             check.due("undo", lamps.undo(), true);
-            check.due("acts", lamps.has(11), k);
             check.due("the seed stays", lamps.has(12), seed);
             lamps.seed(1);
-            check.due("all is as it was " + k, Told.all(lamps), told[k]);
-            lamps.seed(seed);
+            check.due("all is as it was ahead of act " + act, Told.all(lamps), told);
+            for (int k = act; k > 0; k--) {
+                check.due("acts", lamps.has(11), k);
+                check.due("undo", lamps.undo(), true);
+            }
+            check.due("all is as at first", Told.all(lamps), Told.all(Tape.laid(text)));
         }
+        undoRefused();
+    }
+
+    private static void act(MissingLamps lamps, int which) {
+        switch (which) {
+            case 0:
+                lamps.nights(4);
+                break;
+            case 1:
+                lamps.find(1);
+                break;
+            case 2:
+                lamps.lead(1, 0, 3);
+                break;
+            case 3:
+                lamps.lose(1);
+                break;
+            default:
+                lamps.chance(5);
+                break;
+        }
+    }
+
+    private void undoRefused() {
         check.of("27: false, refused (4), when none can be");
-        check.due("no more", lamps.undo(), false);
-        check.due("no more", lamps.undo(), false);
+        MissingLamps lamps = Tape.laid(QUAY);
+        String told = Told.all(lamps);
+        check.due("none", lamps.undo(), false);
+        check.due("none", lamps.undo(), false);
         check.due("refused", lamps.status(4), 2);
-        lamps.seed(1);
-        check.due("all stays", Told.all(lamps), told[0]);
+        check.due("all stays", Told.all(lamps), told);
+        lamps.nights(1);
+        check.due("one", lamps.undo(), true);
+        check.due("no more", lamps.undo(), false);
         MissingLamps none = new MissingLamps();
         check.due("without a quay", none.undo(), false);
         // What was refused, what is met, and the seed are no acts.

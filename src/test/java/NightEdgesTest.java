@@ -457,6 +457,14 @@ public final class NightEdgesTest {
                 check.due("none behind it", lamps.kept(Math.min(k, 39) + 1, 0), -1);
             }
         }
+        for (int k = 0; k < 40; k++) {
+            check.due("found, lost, found ..", lamps.kept(k, 2), (k + 1) % 2);
+        }
+        check.of("all is as it was ahead of it: those that were no more told are told again");
+        lamps.undo();
+        for (int k = 0; k < 40; k++) {
+            check.due("lost, found, lost ..", lamps.kept(k, 2), k % 2);
+        }
     }
 
     private void twentyActs() {

@@ -33,6 +33,7 @@ public final class PlanEdgesTest {
         test.metRows();
         test.badMetRows();
         test.allIsSo();
+        test.latestRowsAlone();
         test.nineHues();
         test.tellingNights();
         test.tellingLikeOnes();
@@ -108,6 +109,8 @@ public final class PlanEdgesTest {
         check.due("two, one is missing", Tape.laid(row + "has a;has c;").losses(0, 1), 5);
         check.due("none, all are missing", Tape.laid(row).losses(0, 1), 0);
         check.due("one that lights all", Tape.laid(row + "has a;has b;has c;lack d at 2 0 hue 2 high 0;has d;").losses(0, 1), 8);
+        check.due("none that is not there", Tape.laid("quay 7 by 3;pace 9;glows lost*3;finds not all;lack a at 0 0 hue 1 high 0;"
+                + "folk f at 0 0 home 6 0;").losses(0, 1), -1);
         check.due("two, though more bits", Tape.laid(row + "has a;has b;has c;lack d at 2 0 hue 1 high 0;has d;"
                 + "lack e at 1 1 hue 3 high 0;has e;").losses(0, 1), 20);
     }
@@ -181,6 +184,8 @@ public final class PlanEdgesTest {
         check.due("one lights all", Tape.laid(two + "lack c at 6 2 hue 9 high 0;").cover(), 4);
         check.due("two of three", Tape.laid("quay 7 by 3;lack a at 0 1 hue 2 high 0;lack b at 3 1 hue 1 high 0;"
                 + "lack c at 4 1 hue 3 high 0;").cover(), 5);
+        check.due("one of two, far from the first cell", Tape.laid("quay 7 by 3;lack a at 5 2 hue 1 high 0;"
+                + "lack b at 5 2 hue 2 high 0;lack c at 0 0 hue 9 high 0;has c;").cover(), 2);
         check.due("one of one", Tape.laid("quay 7 by 3;lack a at 6 2 hue 1 high 0;").cover(), 1);
         check.due("all nine, far from one another", Tape.laid("quay 7 by 7;glows 0;" + spread()).cover(), 511);
     }
@@ -278,6 +283,10 @@ public final class PlanEdgesTest {
         check.isSent(lamps, 1, 0, -1, -1, 8);
         Tape.quay(lamps, "quay 3 by 3;lack z at 2 2 hue 1 high 0;folk y at 0 0 home 0 0;folk x at 2 1 home 0 0;");
         check.isSent(lamps, 1, 1, -1, 0);
+        Tape.quay(lamps, "quay 3 by 3;lack z at 2 2 hue 1 high 0;folk y at 0 0 home 0 0;folk x at 2 2 home 0 0;");
+        check.isSent(lamps, 1, 0, -1, 0);
+        Tape.quay(lamps, "quay 3 by 3;lack z at 2 2 hue 1 high 0;folk y at 0 0 home 0 0;");
+        check.isSent(lamps, 1, 4, 0);
     }
 
     private void rowsOfOdds() {
@@ -343,6 +352,7 @@ public final class PlanEdgesTest {
         check.of("meet(): NONE, refused (5), when it is none such");
         MissingLamps lamps = Tape.laid(MET_QUAY);
         check.due("16 rows", Tape.meet(lamps, new int[64]), 16);
+        check.due("he is not there", lamps.hues(0), 0);
         int[][] bad = {{31, 1, 0, 0}, {0, 2, 0, 0}, {0, 3, 0, 0}, {0, 255, 0, 0}, {0, 0, 5, 0}, {0, 0, 6, 0}, {0, 0, 255, 0},
             {0, 0, 0, 4}, {0, 0, 0, 5}, {0, 0, 0, 255}};
         for (int[] row : bad) {
@@ -380,6 +390,17 @@ public final class PlanEdgesTest {
         lamps.undo();
         lamps.undo();
         check.due("undone", lamps.hues(0), 508);
+    }
+
+    private void latestRowsAlone() {
+        check.of("MET: the rows of the latest meet() alone");
+        MissingLamps lamps = Tape.late("quay 3 by 3;" + Tape.things(1) + Tape.folk(1), 990);
+        Tape.meet(lamps, 0, 0, 0, 0, 30, 0, 0, 0, 0, 0, 1, 1);
+        check.due("beyond 999", lamps.hues(0), 0);
+        Tape.meet(lamps, 9, 0, 0, 0);
+        check.due("one row, to 999", lamps.hues(0), 511);
+        Tape.meet(lamps, 9, 0, 0, 0, 8, 0, 0, 0);
+        check.due("two rows", lamps.hues(0), 511);
     }
 
     private void nineHues() {

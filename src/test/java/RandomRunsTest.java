@@ -10,11 +10,13 @@ public final class RandomRunsTest {
         "folk", "later", "later", "home", "missing", "losses", "worst", "cover", "send", "odds", "hues", "tells",
         "nights", "nights", "chance", "chance", "lose", "lose", "find", "find", "lead", "lead", "undo", "seed", "kept",
         "kept", "image", "octet", "status", "end"};
+    private static final int CALLS_MOST = 512;
     private final Random random;
     private final TextMaker texts;
     private final MissingLamps lamps = new MissingLamps();
     private final PlainModel model = new PlainModel();
     private final List<String> told = new ArrayList<>();
+    private int calls;
     private int wrong;
 
     private RandomRunsTest(long seed) {
@@ -24,7 +26,7 @@ public final class RandomRunsTest {
 
     public static void main(String[] args) throws Exception {
         int first = args.length > 0 ? Integer.parseInt(args[0]) : 0;
-        int count = args.length > 1 ? Integer.parseInt(args[1]) : 150;
+        int count = args.length > 1 ? Integer.parseInt(args[1]) : 250;
         int wrong = 0;
         for (int seed = first; seed < first + count && wrong < 5; seed++) {
             RandomRunsTest run = new RandomRunsTest(seed);
@@ -39,7 +41,7 @@ public final class RandomRunsTest {
     }
 
     private void go(boolean forFaults) throws Exception {
-        for (int k = 0; k < (forFaults ? 60 : 3) && wrong == 0; k++) {
+        for (int k = 0; k < (forFaults ? 60 : 4) && wrong == 0 && calls < CALLS_MOST; k++) {
             boolean whole = !forFaults && random.nextInt(8) > 0;
             text(whole ? texts.whole() : texts.broken());
             for (int n = forFaults ? 2 : 80; n > 0 && wrong == 0; n--) {
@@ -201,6 +203,7 @@ public final class RandomRunsTest {
         ask("on");
     }
 
+    /** What is due; beyond the last call of which something is promised the program is asked no more. */
     private int ask(String name, int... values) throws Exception {
         Integer[] boxed = new Integer[values.length];
         StringBuilder line = new StringBuilder(name);
@@ -208,8 +211,12 @@ public final class RandomRunsTest {
             boxed[k] = values[k];
             line.append(' ').append(values[k]);
         }
-        int got = number(method(MissingLamps.class, name).invoke(lamps, (Object[]) boxed));
         int due = number(method(PlainModel.class, name).invoke(model, (Object[]) boxed));
+        calls++;
+        if (calls > CALLS_MOST) {
+            return due;
+        }
+        int got = number(method(MissingLamps.class, name).invoke(lamps, (Object[]) boxed));
         line.append(" -> ").append(got);
         if (got != due) {
             line.append(", due is ").append(due);
