@@ -17,7 +17,8 @@ import java.util.regex.Pattern;
 
 /** The program keeps to LANGUAGE.md, as far as a tool can see it; FaceTest looks at rule 1. */
 public final class LanguageTest {
-    private static final Pattern FORBIDDEN = Pattern.compile("\\b(throw|throws|try|catch|finally|synchronized|assert|import|package|native|volatile|transient|var|yield)\\b|->|::|@|\\bstatic \\{");
+    private static final Pattern FORBIDDEN = Pattern.compile(
+            "\\b(throw|throws|try|catch|finally|synchronized|assert|import|package|native|volatile)\\b|->|::|@|\\bstatic \\{");
     private static final Pattern METHOD = Pattern.compile("^ {4}( {4})?[\\w\\[\\] ]+\\([^;]*\\) \\{$");
     private static final Set<String> LIBRARY = Set.of(
             "java/lang/Object.<init>", "java/lang/String.length", "java/lang/String.charAt", "java/lang/System.arraycopy",
@@ -88,7 +89,8 @@ public final class LanguageTest {
             CHECK.of("rule 3: types");
             CHECK.due("type of " + field, isAllowed(field.getType()), true);
             CHECK.of("rule 5: static fields are final");
-            CHECK.due("constant " + field, !isStatic || Modifier.isFinal(field.getModifiers()) && isConstant(field.getType()), true);
+            boolean isConstant = Modifier.isFinal(field.getModifiers()) && isOfConstants(field.getType());
+            CHECK.due("constant " + field, !isStatic || isConstant, true);
         }
         CHECK.of("rule 11: some twenty fields");
         CHECK.due(fields + " fields of " + type, fields <= FIELDS_MOST, true);
@@ -108,9 +110,9 @@ public final class LanguageTest {
         return one.isPrimitive() || one == String.class || one.getName().startsWith("MissingLamps");
     }
 
-    private static boolean isConstant(Class<?> type) {
+    private static boolean isOfConstants(Class<?> type) {
         Class<?> one = type.isArray() ? type.getComponentType() : type;
-        return one == int.class || one == long.class || one == boolean.class || one == char.class || one == byte.class || one == String.class;
+        return Set.of(int.class, long.class, boolean.class, char.class, byte.class, String.class).contains(one);
     }
 
     private static void checkLibrary(Class<?> type, ClassFile compiled) {
@@ -156,7 +158,8 @@ public final class LanguageTest {
     }
 
     /** How many calls stand open at once below and with a method, those that call one another counted as one. */
-    private static int depth(Map<String, Set<String>> calls, Set<String> recursive, Map<String, Integer> depths, String from) {
+    private static int depth(Map<String, Set<String>> calls, Set<String> recursive, Map<String, Integer> depths,
+            String from) {
         if (depths.containsKey(from)) {
             return depths.get(from);
         }

@@ -11,7 +11,7 @@ import java.util.regex.Pattern;
 /** README.md shows each method, and its code compiles and answers as the page says. */
 public final class ReadmeTest {
     // A call whose answer is told behind it, at the head of the remark.
-    private static final Pattern ANSWERED = Pattern.compile("(lamps\\.(\\w+)\\(.*\\));\\s*// (-?\\d+|true|false)\\b.*");
+    private static final Pattern ANSWERED = Pattern.compile("(lamps\\.\\w+\\(.*\\));\\s*// (-?\\d+|true|false)\\b.*");
     private static final String RUN = "ReadmeRun";
 
     public static void main(String[] args) throws Exception {
@@ -47,12 +47,13 @@ public final class ReadmeTest {
         }
         for (Method method : MissingLamps.class.getDeclaredMethods()) {
             if (Modifier.isPublic(method.getModifiers())) {
-                check.due("the page shows " + method.getName(), shown.indexOf("lamps." + method.getName() + "(") >= 0, true);
+                boolean isShown = shown.indexOf("lamps." + method.getName() + "(") >= 0;
+                check.due("the page shows " + method.getName(), isShown, true);
             }
         }
     }
 
-    /** A class of the page's code: its own methods as they are, all else in the method run, each told answer checked. */
+    /** A class of the page's code: its methods as they are, all else in the method run, each told answer checked. */
     private static String source(List<String> code) {
         StringBuilder methods = new StringBuilder();
         StringBuilder run = new StringBuilder();
@@ -63,8 +64,8 @@ public final class ReadmeTest {
             if (inMethod) {
                 methods.append(line).append('\n');
             } else if (answered.matches()) {
-                run.append("check.due(\"").append(answered.group(1)).append("\", ").append(answered.group(1)).append(", ")
-                        .append(answered.group(3)).append(");\n");
+                String call = answered.group(1);
+                run.append("check.due(\"" + call + "\", " + call + ", " + answered.group(2) + ");\n");
             } else {
                 run.append(line).append('\n');
             }
